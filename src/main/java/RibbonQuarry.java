@@ -512,8 +512,10 @@ public final class RibbonQuarry {
                 return pairFault(reel, second);
             case FLIP:
                 return rangeFault(reel, second, third);
-            default:
+            case DYE:
                 return dyeFault(reel, second, third, fourth);
+            default:
+                return BAD_STATE;
         }
     }
 
@@ -535,8 +537,10 @@ public final class RibbonQuarry {
                 return reels.swap(reel, second);
             case FLIP:
                 return reels.reverse(reel, second, third);
-            default:
+            case DYE:
                 return reels.paint(reel, second, third, fourth);
+            default:
+                return NONE;
         }
     }
 

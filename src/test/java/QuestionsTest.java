@@ -22,6 +22,7 @@ public final class QuestionsTest extends Promises {
         areEqual();
         cutCount();
         spliceCount();
+        whatStoodBehindTheEnd();
         Checks.end();
     }
 
@@ -111,6 +112,7 @@ public final class QuestionsTest extends Promises {
         due(1, x.longestInRange(0, 0, 4));
         due(1, x.longestInRange(0, 1, 3));
         due(3, x.longestInRange(0, 2, 4));
+        due(3, x.longestInRange(0, 2, 3));
         due(0, x.longestInRange(0, 0, 0));
         due(4, x.longestInRange(0, 4, 4));
         dueRangeExceptions(x, (first, last) -> x.longestInRange(0, first, last));
@@ -372,5 +374,51 @@ public final class QuestionsTest extends Promises {
         due(4, x.spliceCount());
         x.restore();
         due(2, x.spliceCount());
+    }
+
+    /** Segments that left a reel count for nothing any more, however the reel was made shorter. */
+    private static void whatStoodBehindTheEnd() {
+        Checks.begin("promises 14 to 31, after remove");
+        RibbonQuarry x = with("1a9a9b", "", "1a");
+        x.remove(0, 2);
+        x.remove(0, 1);
+        dueShort(x, 0);
+        Checks.begin("promises 14 to 31, after cut");
+        x = with("1a9a9b", "", "1a");
+        x.cut(0, 1, 1);
+        dueShort(x, 0);
+        due(18, x.reelLength(1));
+        Checks.begin("promises 14 to 31, after splice");
+        x = with("2h", "1a9a9b", "1a");
+        x.splice(0, 1);
+        x.append(1, 1, 0);
+        dueShort(x, 1);
+        Checks.begin("promises 14 to 31, after exchange");
+        x = with("1a9a9b", "1a", "1a");
+        x.exchange(0, 1);
+        dueShort(x, 0);
+    }
+
+    /** For a reel of the one segment 1a, as the reel 2 has it, which stood before a longer 9a and 9b. */
+    private static void dueShort(RibbonQuarry x, int reel) {
+        due(1, x.reelLength(reel));
+        due(1, x.lengthBefore(reel, 1));
+        due(1, x.lengthBeforeByScan(reel, 1));
+        due(0, x.positionAt(reel, 0));
+        element(x, () -> x.positionAt(reel, 1));
+        due(0, x.segmentAtRank(reel, 0));
+        element(x, () -> x.segmentAtRank(reel, 1));
+        due(0, x.tangleCount(reel));
+        due(0, x.tangleCountByScan(reel));
+        due(false, x.isTangled(reel, 0));
+        due(1, x.longestRun(reel));
+        element(x, () -> x.nextOfColour(reel, 0, 1));
+        due(1, x.colourLength(reel, 0));
+        due(0, x.colourLength(reel, 1));
+        element(x, () -> x.colourAtRank(reel, 1));
+        due(true, x.isSymmetric(reel));
+        due(1, x.commonBeginning(reel, 2));
+        due(true, x.areEqual(reel, 2));
+        index(x, () -> x.length(reel, 1));
     }
 }

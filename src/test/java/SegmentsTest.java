@@ -221,6 +221,15 @@ public final class SegmentsTest extends Promises {
         due(60, full.splice(1, 0));
         due(0, full.segmentCount(0));
         due(1, full.colour(1, 0));
+        RibbonQuarry y = with("1a".repeat(59), "7h", "2b", "1a".repeat(59));
+        due(60, y.splice(0, 2));
+        dueReels(y, "1a".repeat(59) + "2b", "7h", "", "1a".repeat(59));
+        due(60, y.splice(3, 1));
+        dueReels(y, "1a".repeat(59) + "2b", "", "", "1a".repeat(59) + "7h");
+        due(60, y.cut(3, 0, 1));
+        y.append(2, 9, 1);
+        due(60, y.cut(1, 0, 3));
+        due(9, y.length(2, 0));
     }
 
     private static void exchange() {
