@@ -1,4 +1,5 @@
 import java.util.NoSuchElementException;
+import java.util.Set;
 
 /** Counts what a test finds and prints every answer that is not the one that is due. */
 final class Checks {
@@ -12,6 +13,8 @@ final class Checks {
     static final Class<?> STATE = IllegalStateException.class;
     static final Class<?> ELEMENT = NoSuchElementException.class;
     static final Class<?> ARITHMETIC = ArithmeticException.class;
+
+    private static final Set<String> HELPERS = Set.of("Checks", "Promises", "Look");
 
     private static int passed = 0;
     private static int failed = 0;
@@ -35,14 +38,7 @@ final class Checks {
         }
     }
 
-    /** The call must throw just this exception (none of its subclasses) and change nothing that can be seen. */
-    static void dueThrow(Class<?> want, RibbonQuarry quarry, Call call) {
-        String before = Look.at(quarry);
-        due(want.getSimpleName(), outcome(call));
-        due(before, Look.at(quarry));
-    }
-
-    /** The answer as a text, or the simple name of the exception that the call throws. */
+    /** The answer as a text, or the simple name of just the exception that the call throws, none above or below it. */
     static String outcome(Call call) {
         try {
             return String.valueOf(call.answer());
@@ -61,13 +57,9 @@ final class Checks {
     private static StackTraceElement placeOfCheck() {
         StackTraceElement[] trace = new Throwable().getStackTrace();
         int index = 0;
-        while (index + 1 < trace.length && isOfTheHelpers(trace[index].getClassName())) {
+        while (index + 1 < trace.length && HELPERS.contains(trace[index].getClassName())) {
             index++;
         }
         return trace[index];
-    }
-
-    private static boolean isOfTheHelpers(String name) {
-        return name.equals("Checks") || name.equals("Promises");
     }
 }

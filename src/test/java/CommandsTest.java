@@ -1,167 +1,340 @@
+import java.io.IOException;
+
 /** Promises 34 to 37: the command text, run and what it sets. */
 public final class CommandsTest extends Promises {
 
-    public static void main(String[] args) {
+    /** Each of these texts is well formed and fails on the reels of AGAINST, each for another reason. */
+    private static final String[] FAILING = {"add 4 1a", "add 9 1a", "add 0 0a", "add 0 00h", "add 3 1a", "put 4@0 1a",
+        "put 0@3 1a", "put 0@99 1a", "put 0@0 00b", "put 3@0 1a", "put 3@60 1a", "drop 0@2", "drop 0@99", "drop 4@0",
+        "drop 1@0", "drop 3@60", "tie 0@2=5", "tie 0@0=0", "tie 0@0=00", "tie 4@0=1", "tie 1@0=1", "cut 0@3>1",
+        "cut 0@0>0", "cut 0@0>3", "cut 0@0>4", "cut 4@0>1", "cut 1@1>2", "join 0<0", "join 0<3", "join 3<0",
+        "join 0<4", "join 4<0", "swap 04", "swap 40", "swap 99", "flip 0@0-2", "flip 0@2-2", "flip 0@1-0",
+        "flip 1@0-0", "flip 4@0-0", "dye 0@0-2 a", "dye 0@2-2 a", "dye 0@1-0 a", "dye 4@0-0 a", "dye 1@0-0 a"};
+    private static final String[] AGAINST = {"1a2b", "", "", FULL};
+
+    public static void main(String[] args) throws IOException {
+        begin(args);
         type();
-        runOfEachCommand();
-        runAllOrNone();
-        runOfWrongCommands();
+        run();
         errorPosition();
         failedCommand();
-        Checks.end();
+        endPromises(34, 37);
     }
-
-    // ---- 34 to 37: commands
 
     private static void type() {
-        Checks.begin("promise 34");
+        promise(34);
+        says("Appends a character to the command text.");
         RibbonQuarry x = new RibbonQuarry();
-        due(1, x.type(' '));
-        due(2, x.type('~'));
-        for (char sign : new char[] {0, 31, 127, 128, 233, 0xffff}) {
-            argument(x, () -> x.type(sign));
+        typeAll(x, "add 0 1a");
+        x.describeReel(0);
+        typeAll(x, ";add 0 2b");
+        due(2, x.run());
+        dueReels(x, "1a2b");
+
+        says("character: the character");
+        for (char sign = 32; sign <= 126; sign++) {
+            RibbonQuarry y = new RibbonQuarry();
+            due(1, y.type(sign));
+            due("IllegalArgumentException", Checks.outcome(y::run));
+            due("adpctsjf".indexOf(sign) >= 0 ? 1 : 0, y.errorPosition());
         }
-        for (int length = 3; length <= 60; length++) {
-            due(length, x.type('a'));
+
+        says("Returns the length of the command text after the call.");
+        RibbonQuarry growing = new RibbonQuarry();
+        for (int length = 1; length <= 60; length++) {
+            due(length, growing.type((char) (31 + length)));
         }
-        state(x, () -> x.type('a'));
-        argument(x, () -> x.type((char) 31));
-        argument(x, () -> x.type((char) 127));
-        runThrows(Checks.ARGUMENT, x, "");
-        due(1, x.type('a'));
-        RibbonQuarry y = new RibbonQuarry();
-        typeAll(y, "add 0 1a");
-        argument(y, () -> y.type('\n'));
-        due(1, y.run());
+        Checks.outcome(growing::run);
+        due(1, growing.type(' '));
+        due(2, growing.type(' '));
+
+        says("Throws IllegalArgumentException if the code of the character is not from 32 to 126");
+        for (char code : new char[] {0, 9, 10, 13, 31, 127, 128, 160, 255, 256 + 'a', 0x8061, 0xffff}) {
+            argument(() -> lived(FOUR), y -> y.type(code));
+        }
+        for (int code = 0; code <= 0xffff; code++) {
+            char sign = (char) code;
+            RibbonQuarry y = new RibbonQuarry();
+            due(code >= 32 && code <= 126 ? "1" : "IllegalArgumentException", Checks.outcome(() -> y.type(sign)));
+        }
+
+        says("Throws IllegalStateException if the command text has 60 characters");
+        Look.Maker sixty = () -> withText("swap 00;".repeat(6) + "put 0@1 99h;");
+        state(sixty, y -> y.type(';'));
+        state(sixty, y -> y.type('a'));
+        Look.Maker fifty9 = () -> withText("swap 00;".repeat(6) + "put 0@1 99");
+        RibbonQuarry full = fifty9.make();
+        due(59, full.type('h'));
+        due(60, full.type(';'));
+        due("IllegalStateException", Checks.outcome(() -> full.type(';')));
+        due("IllegalArgumentException", Checks.outcome(full::run));
+        due(60, full.errorPosition());
+        due(1, full.type('a'));
     }
 
-    private static void runOfEachCommand() {
-        Checks.begin("promise 35");
-        RibbonQuarry x = new RibbonQuarry();
-        due(1, runAll(x, "add 0 99a"));
-        due(2, runAll(x, "add 0 5h;add 0 07c"));
-        dueReels(x, "99a5h7c", "", "", "");
-        due(2, runAll(x, "put 0@3 12b;put 0@00 1d"));
-        dueReels(x, "1d99a5h7c12b", "", "", "");
-        due(1, runAll(x, "drop 0@2"));
-        due(1, runAll(x, "tie 0@3=45"));
-        dueReels(x, "1d99a7c45b", "", "", "");
-        due(1, runAll(x, "cut 0@01>3"));
-        dueReels(x, "1d", "", "", "99a7c45b");
-        due(1, runAll(x, "flip 3@0-2"));
-        dueReels(x, "1d", "", "", "45b7c99a");
-        due(1, runAll(x, "join 0<3"));
-        dueReels(x, "1d45b7c99a", "", "", "");
-        due(1, runAll(x, "swap 02"));
-        dueReels(x, "", "", "1d45b7c99a", "");
-        due(1, runAll(x, "dye 2@1-02 g"));
-        dueReels(x, "", "", "1d45g7g99a", "");
-        due(7, runAll(x, "swap 01;swap 02;swap 03;swap 10;swap 20;swap 30;swap 11"));
-        due(1, x.cutCount());
-        due(1, x.spliceCount());
-        due(1, x.type('a'));
-        RibbonQuarry long60 = new RibbonQuarry();
-        due(6, runAll(long60, "add 0 1a;put 0@0 1b;put 0@1 1c;put 0@1 1d;add 0 5e;add 0 61f"));
-        dueReels(long60, "1b1d1c1a5e61f");
-        due(true, long60.isConsistent());
+    /** A lived object with this command text alone. */
+    private static RibbonQuarry withText(String text) {
+        RibbonQuarry x = lived(FOUR);
+        Checks.outcome(x::run);
+        typeAll(x, text);
+        return x;
     }
 
-    private static void runAllOrNone() {
-        Checks.begin("promise 35");
-        RibbonQuarry x = with("1a2b");
-        x.save();
-        runThrows(Checks.STATE, x, "drop 0@0;cut 0@0>1;drop 0@0;add 0 1a");
-        dueReels(x, "1a2b", "", "", "");
-        due(0, x.cutCount());
-        due(2, x.failedCommand());
-        element(x, x::errorPosition);
-        runThrows(Checks.ARGUMENT, x, "");
-        due(0, x.errorPosition());
-        due(2, x.failedCommand());
-        runThrows(Checks.ARGUMENT, x, "drop 0@0;drop 0@0;");
-        due(18, x.errorPosition());
-        due(2, x.failedCommand());
-        dueReels(x, "1a2b", "", "", "");
-        due(1, runAll(x, "drop 0@0"));
-        due(18, x.errorPosition());
-        due(2, x.failedCommand());
+    private static void run() {
+        promise(35);
+        runInOrder();
+        runAllOrNone();
+        runLeavesNoText();
+        runFailsAtTheFirst();
+        runCounts();
+        runOfNoText();
+        runOfWrongCommands();
+    }
+
+    private static void runInOrder() {
+        says("Parses the command text and carries out its commands in order.");
+        RibbonQuarry x = new RibbonQuarry();
+        runAll(x, "add 0 99a");
+        runAll(x, "add 0 5h;add 0 07c");
+        dueReels(x, "99a5h7c");
+        runAll(x, "put 0@3 12b;put 0@00 1d");
+        dueReels(x, "1d99a5h7c12b");
+        runAll(x, "drop 0@2");
+        runAll(x, "tie 0@2=45");
+        dueReels(x, "1d99a45c12b");
+        runAll(x, "cut 0@01>3");
+        dueReels(x, "1d", "", "", "99a45c12b");
+        runAll(x, "flip 3@0-2");
+        dueReels(x, "1d", "", "", "12b45c99a");
+        runAll(x, "join 0<3");
+        dueReels(x, "1d12b45c99a");
+        runAll(x, "swap 02");
+        dueReels(x, "", "", "1d12b45c99a");
+        runAll(x, "dye 2@1-02 g");
+        dueReels(x, "", "", "1d12g45g99a");
+        runAll(x, "cut 2@1>0;cut 0@1>1;drop 0@0;join 1<2;tie 1@2=1");
+        dueReels(x, "", "45g99a1d");
         due(true, x.isConsistent());
     }
 
-    /** Each of these texts is well formed, and its only command fails on a reel of two segments. */
-    private static void runOfWrongCommands() {
-        Checks.begin("promise 35");
-        String[] texts = {"add 4 1a", "add 0 0a", "add 3 1a", "put 9@0 1a", "put 0@3 1a", "put 0@0 00b", "put 3@0 1a",
-            "drop 0@2", "drop 4@0", "drop 1@0", "tie 0@2=5", "tie 0@0=0", "tie 0@0=00", "tie 9@0=1", "cut 0@3>1",
-            "cut 0@0>0", "cut 0@0>3", "cut 0@0>4", "cut 4@0>0", "join 0<0", "join 0<3", "join 0<4", "join 4<0",
-            "swap 04", "swap 40", "flip 0@0-2", "flip 0@1-0", "flip 1@0-0", "flip 4@0-0", "dye 0@0-2 a",
-            "dye 0@1-0 a", "dye 4@0-0 a", "dye 1@0-0 a"};
-        for (String text : texts) {
-            Checks.begin("promise 35, text " + text);
-            RibbonQuarry x = with("1a2b", "", "", "1a".repeat(60));
-            String before = Look.reel(x, 0) + Look.reel(x, 3);
-            runThrows(Checks.STATE, x, text);
-            due(before, Look.reel(x, 0) + Look.reel(x, 3));
-            due(0, x.failedCommand());
-            element(x, x::errorPosition);
-            due(1, x.type('a'));
+    /** The command that fails comes last, behind commands that change lengths, colours, counts and borders of parts. */
+    private static void runAllOrNone() {
+        says("Either all commands are carried out, or none.");
+        String[] starts = {"add 0 1a", "put 0@0 1a;drop 0@1", "tie 0@0=99;dye 0@0-58 h", "cut 0@0>1;join 1<2;swap 13",
+            "flip 0@0-58;drop 0@0;cut 0@9>3;swap 03", "swap 01;swap 12;swap 20;swap 31;swap 02"};
+        for (String start : starts) {
+            RibbonQuarry all = withNoText(stairs(1, 59), "", "2c");
+            String before = Look.at(all);
+            due(start.split(";").length, runAll(all, start));
+            due(false, before.equals(Look.at(all)));
         }
+        for (String start : starts) {
+            Look.Maker maker = () -> withNoText(stairs(1, 59), "", "2c");
+            String none = Look.after(maker, y -> runsAndForgets(y, "drop 3@0"));
+            due(none, Look.after(maker, y -> runsAndForgets(y, start + ";drop 9@0")));
+            due(none, Look.after(maker, y -> runsAndForgets(y, start + ";add 0 0a")));
+        }
+    }
+
+    private static RibbonQuarry withNoText(String... reels) {
+        RibbonQuarry x = lived(reels);
+        Checks.outcome(x::run);
+        return x;
+    }
+
+    /** Runs a text that fails, then one that always fails at its first command, and leaves a command begun. */
+    private static Object runsAndForgets(RibbonQuarry x, String text) {
+        runThrows(Checks.STATE, x, text);
+        runThrows(Checks.STATE, x, "drop 9@0");
+        typeAll(x, "drop 0@");
+        return null;
+    }
+
+    private static void runLeavesNoText() {
+        says("The command text is empty after the call, also if an exception is thrown.");
+        RibbonQuarry x = with("1a");
+        due(1, runAll(x, "add 0 2b"));
+        due(1, x.type('a'));
+        typeAll(x, "dd 0 3c");
+        due(1, x.run());
+        dueReels(x, "1a2b3c");
+        runThrows(Checks.ARGUMENT, x, "add 0 4d;");
+        due(1, x.type('a'));
+        typeAll(x, "dd 0 5e");
+        due(1, x.run());
+        dueReels(x, "1a2b3c5e");
+        runThrows(Checks.STATE, x, "add 0 6f;drop 1@0");
+        due(1, x.type('a'));
+        typeAll(x, "dd 0 7g");
+        due(1, x.run());
+        dueReels(x, "1a2b3c5e7g");
+        // Once empty, the text is no command text.
+        due("IllegalArgumentException", Checks.outcome(x::run));
+        due(0, x.errorPosition());
+        typeAll(x, "~".repeat(60));
+        due("IllegalArgumentException", Checks.outcome(x::run));
+        due(1, x.type('~'));
+    }
+
+    private static void runFailsAtTheFirst() {
+        says("The first command whose method would throw an exception is the failed command.");
+        for (int good = 0; good <= 5; good++) {
+            RibbonQuarry x = with(AGAINST);
+            runThrows(Checks.STATE, x, "swap 01;".repeat(good) + "swap 09;drop 9@0");
+            due(good, x.failedCommand());
+        }
+        for (String text : FAILING) {
+            RibbonQuarry x = with(AGAINST);
+            runThrows(Checks.STATE, x, "swap 22;swap 12;" + text + ";drop 9@9;" + text);
+            due(2, x.failedCommand());
+        }
+        // What comes before decides whether a command fails.
+        RibbonQuarry x = with("1a2b");
+        runThrows(Checks.STATE, x, "drop 0@1;drop 0@1;drop 0@0");
+        due(1, x.failedCommand());
+        runThrows(Checks.STATE, x, "drop 0@0;drop 0@0;drop 0@0");
+        due(2, x.failedCommand());
+        runThrows(Checks.STATE, x, "cut 0@0>1;cut 1@0>0;cut 0@0>1;cut 0@0>1");
+        due(3, x.failedCommand());
+        due(2, runAll(x, "cut 0@0>1;put 1@2 3c"));
+        RibbonQuarry full = with("1a".repeat(58));
+        runThrows(Checks.STATE, full, "add 0 1a;add 0 1a;add 0 1a");
+        due(2, full.failedCommand());
+        runThrows(Checks.STATE, full, "add 1 1a;add 1 1a;add 1 1a;join 0<1");
+        due(3, full.failedCommand());
+        due(3, runAll(full, "add 1 1a;add 1 1a;join 0<1"));
+    }
+
+    private static void runCounts() {
+        says("Returns the number of commands.");
+        for (int count = 1; count <= 7; count++) {
+            RibbonQuarry x = with("1a", "2b");
+            due(count, runAll(x, "swap 01" + ";swap 01".repeat(count - 1)));
+            dueReels(x, count % 2 == 0 ? "1a" : "2b", count % 2 == 0 ? "2b" : "1a");
+        }
+        due(6, runAll(new RibbonQuarry(), "add 0 1a;put 0@0 1b;put 0@1 1c;put 0@1 1d;add 0 5e;add 0 61f"));
+        RibbonQuarry sixty = new RibbonQuarry();
+        due(7, runAll(sixty, "swap 01;add 0 1a;swap 01;swap 01;swap 01;swap 01;add 0 11b"));
+        due(5, runAll(sixty, "add 0 1a;put 0@1 12b;put 0@01 12c;put 0@0 12d;put 0@0 12e"));
+    }
+
+    private static void runOfNoText() {
+        says("Throws IllegalArgumentException if the text is not a command text; the error position is set and the"
+                + " failed command is left as it is");
+        RibbonQuarry x = with("1a2b");
+        runThrows(Checks.ARGUMENT, x, "");
+        due(0, x.errorPosition());
+        due("NoSuchElementException", Checks.outcome(x::failedCommand));
+        runThrows(Checks.STATE, x, "swap 01;drop 9@0");
+        due(1, x.failedCommand());
+        String[] texts = {"", "x", "add 0 1", "add 0 1a;", "add 0 1a;x", "drop 9@0;", "drop 9@0;x", "add 0 1a add 0 1a"};
+        int[] positions = {0, 0, 7, 9, 9, 9, 9, 8};
+        for (int index = 0; index < texts.length; index++) {
+            runThrows(Checks.ARGUMENT, x, texts[index]);
+            due(positions[index], x.errorPosition());
+            due(1, x.failedCommand());
+            dueReels(x, "1a2b");
+        }
+        due(1, x.undo());
+        Look.Maker maker = () -> withNoText(FOUR);
+        String untouched = Look.after(maker, y -> runsNoText(y, "add 9x"));
+        due(untouched, Look.after(maker, y -> runsNoText(y, "dye 0@0-0 h;cut 3@0>0;dye 9")));
+        due(untouched, Look.after(maker, y -> runsNoText(y, "cut 0@0>1;drop 0@0;")));
+    }
+
+    /** Runs a text that is no command text, then a known one, and leaves a command begun. */
+    private static Object runsNoText(RibbonQuarry x, String text) {
+        runThrows(Checks.ARGUMENT, x, text);
+        runThrows(Checks.ARGUMENT, x, "add x");
+        typeAll(x, "drop 0@");
+        return null;
+    }
+
+    private static void runOfWrongCommands() {
+        says("Throws IllegalStateException if a command fails; the failed command is set and the error position is"
+                + " left as it is");
+        for (String text : FAILING) {
+            RibbonQuarry x = with(AGAINST);
+            String before = Look.at(x).replace("failed NoSuchElementException", "failed 0");
+            runThrows(Checks.STATE, x, text);
+            due(before, Look.at(x));
+        }
+        RibbonQuarry x = with(AGAINST);
+        runThrows(Checks.STATE, x, "drop 9@0");
+        due("NoSuchElementException", Checks.outcome(x::errorPosition));
+        runThrows(Checks.ARGUMENT, x, "add 0x");
+        runThrows(Checks.STATE, x, "swap 00;drop 9@0");
+        due(5, x.errorPosition());
+        due(1, x.failedCommand());
     }
 
     private static void errorPosition() {
-        Checks.begin("promise 36");
-        RibbonQuarry fresh = new RibbonQuarry();
-        element(fresh, fresh::errorPosition);
-        dueError(0, "", "x", "A", " add 0 1a", ";", "1", "i", "q");
-        dueError(1, "a", "d", "p", "t", "c", "j", "s", "f", "dx", "ax", "d;", "px", "da", "p d", "sa", "fi", "ja");
-        dueError(2, "dr", "dy", "dre", "dyo", "ado", "pur", "tip", "cup", "jon", "swo", "flo");
-        dueError(3, "add", "put", "dye", "tie", "cut", "addx", "dyee", "dro", "drox", "swax", "flix", "joix");
-        dueError(4, "add ", "add  ", "add a", "drop", "drop_", "flip@", "join-", "swap1", "put -", "cut @", "dye  1");
-        dueError(5, "add 0", "add 00", "add 0@", "put 0 1", "drop x", "join <", "tie 0=", "cut 0>", "dye 0 a", "swap ");
-        dueError(6, "add 0 ", "add 0 a", "put 0@", "put 0@a", "swap 0", "swap 0a", "tie 0@=", "drop 0 ", "join 0@");
-        dueError(7, "add 0 1", "add 0 1;", "add 0 1i", "add 0 1`", "add 0 1A", "put 0@1x", "put 0@1a", "swap 000");
-        dueError(7, "tie 0@1-", "cut 0@1-", "join 0<", "drop 0@", "drop 0@x", "flip 0@", "flip 0@x");
-        dueError(8, "add 0 1aa", "add 0 1a ", "add 0 123", "add 0 12i", "put 0@123", "tie 0@12-", "cut 0@1>");
-        dueError(8, "drop 0@1x", "drop 0@1 ", "flip 0@0", "flip 0@0;", "join 0<12", "swap 01;", "swap 01;;");
-        dueError(9, "add 0 1a;", "add 0 12a1", "add 0 1a;;", "drop 0@123", "flip 0@0-", "flip 0@0-x");
-        dueError(9, "dye 0@0-1", "dye 0@0-1;", "dye 0@0-1a", "tie 0@1=1x", "cut 0@1>12", "swap 01;dx");
-        dueError(10, "dye 0@0-1 ", "dye 0@0-1 i", "dye 0@0-1 1", "tie 0@1=123", "put 0@1 12", "put 0@1 123");
-        dueError(10, "dye 0@0-123", "swap 00;dr", "swap 00;dyo", "swap 00;drx", "flip 0@0-1x");
-        dueError(10, "dye 0@0-12", "dye 0@0-12a");
-        dueError(11, "dye 0@0-1 aa", "flip 0@0-123", "dye 0@0-12 1", "dye 0@0-12 ");
-        dueError(60, "add 0 1a;".repeat(6) + "add 0 ", "add 0 1a;".repeat(6) + "swap 0", "swap 01;".repeat(7) + "swap");
-        dueError(59, "add 0 1a;".repeat(6) + "add 0x", "swap 01;".repeat(7) + "swaP", "swap 01;".repeat(7) + "add");
-    }
+        promise(36);
+        says("Returns the error position that was set last.");
+        RibbonQuarry x = with("1a");
+        runThrows(Checks.ARGUMENT, x, "add 0 99x");
+        due(8, x.errorPosition());
+        due(8, x.errorPosition());
+        runThrows(Checks.ARGUMENT, x, "adx");
+        due(2, x.errorPosition());
+        runAll(x, "add 0 99h");
+        due(2, x.errorPosition());
+        runThrows(Checks.STATE, x, "drop 1@0");
+        due(2, x.errorPosition());
+        runThrows(Checks.ARGUMENT, x, "");
+        due(0, x.errorPosition());
+        typeAll(x, "add 0");
+        due(0, x.errorPosition());
 
-    private static void dueError(int position, String... texts) {
-        for (String text : texts) {
-            RibbonQuarry x = new RibbonQuarry();
-            Checks.begin("promise 36, text " + text);
-            runThrows(Checks.ARGUMENT, x, text);
-            due(position, x.errorPosition());
-            element(x, x::failedCommand);
-            // The latest error counts, and an errorless run leaves it.
-            runThrows(Checks.ARGUMENT, x, "add 0 99x");
-            due(8, x.errorPosition());
-            runAll(x, "add 0 99h");
-            due(8, x.errorPosition());
+        says("Returns the error position.");
+        for (int length = 0; length <= 60; length++) {
+            RibbonQuarry y = new RibbonQuarry();
+            String text = "swap 00;swap 01;swap 02;swap 03;swap 04;swap 05;swap 06;swap";
+            boolean whole = length % 8 == 7;
+            if (!whole) {
+                runThrows(Checks.ARGUMENT, y, text.substring(0, length));
+                due(length, y.errorPosition());
+            }
         }
+
+        says("Throws NoSuchElementException if no error position was set");
+        element(RibbonQuarry::new, RibbonQuarry::errorPosition);
+        element(() -> with(FOUR), RibbonQuarry::errorPosition);
+        RibbonQuarry unset = new RibbonQuarry();
+        runAll(unset, "add 0 1a");
+        runThrows(Checks.STATE, unset, "drop 1@0");
+        due("NoSuchElementException", Checks.outcome(unset::errorPosition));
     }
 
     private static void failedCommand() {
-        Checks.begin("promise 37");
+        promise(37);
+        says("Returns the index of the failed command of the latest run in which a command failed.");
         RibbonQuarry x = with("1a");
-        element(x, x::failedCommand);
         runThrows(Checks.STATE, x, "swap 01;drop 1@0;drop 1@0;drop 4@0");
+        due(2, x.failedCommand());
         due(2, x.failedCommand());
         runAll(x, "swap 01");
         due(2, x.failedCommand());
-        runThrows(Checks.STATE, x, "swap 01;swap 01;swap 01;swap 01;swap 01;swap 01;swap 09");
-        due(6, x.failedCommand());
-        runThrows(Checks.STATE, x, "drop 0@0");
-        due(0, x.failedCommand());
-        element(x, x::errorPosition);
-        x.undo();
-        due(0, x.failedCommand());
+        runThrows(Checks.ARGUMENT, x, "drop 1@0;");
+        due(2, x.failedCommand());
+        runThrows(Checks.STATE, x, "swap 00;drop 9@0");
+        due(1, x.failedCommand());
+        due("IndexOutOfBoundsException", Checks.outcome(() -> x.remove(0, 0)));
+        due(1, x.failedCommand());
+
+        says("Returns the index, from 0.");
+        for (int index = 0; index <= 6; index++) {
+            RibbonQuarry y = with("1a");
+            runThrows(Checks.STATE, y, "swap 00;".repeat(index) + "swap 09" + ";swap 00".repeat(6 - index));
+            due(index, y.failedCommand());
+        }
+
+        says("Throws NoSuchElementException if no command has failed");
+        element(RibbonQuarry::new, RibbonQuarry::failedCommand);
+        element(() -> with(FOUR), RibbonQuarry::failedCommand);
+        RibbonQuarry unset = new RibbonQuarry();
+        runAll(unset, "add 0 1a");
+        runThrows(Checks.ARGUMENT, unset, "drop 1@0;");
+        due("NoSuchElementException", Checks.outcome(unset::failedCommand));
     }
 }

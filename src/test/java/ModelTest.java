@@ -1,10 +1,11 @@
 import java.util.Random;
 
-/** Long runs of calls on the class and on the plain model, with the same answers due; the seeds are fixed. */
+/** Runs of calls on the class and on the plain model, with the same answers due; the seeds are fixed. */
 public final class ModelTest {
 
-    private static final int RUNS = 900;
-    private static final int CALLS = 400;
+    private static final int RUNS = 6000;
+    // What an object answers later than this is free.
+    private static final int CALLS = 512;
 
     private final Random dice;
     private final RibbonQuarry quarry = new RibbonQuarry();
@@ -12,6 +13,7 @@ public final class ModelTest {
     // How many of ten calls put segments in: some runs fill the reels, others keep them short.
     private final int growth;
     private final boolean careless;
+    private int calls = 0;
 
     private ModelTest(int seed) {
         dice = new Random(seed);
@@ -28,25 +30,37 @@ public final class ModelTest {
     }
 
     private void compare() {
-        for (int call = 0; call < CALLS; call++) {
+        int last = 100 + dice.nextInt(400);
+        while (calls < last) {
             if (dice.nextInt(10) < growth) {
                 grow();
             } else {
                 step();
             }
         }
-        for (int reel = 0; reel < 4; reel++) {
-            describe(reel);
-            compareRanks(reel);
-        }
-        for (int undos = 0; undos < 10; undos++) {
+        if (dice.nextBoolean()) {
             both(quarry::undo, model::undo);
-            describe(undos % 4);
+            both(quarry::undo, model::undo);
+        }
+        while (calls < CALLS) {
+            lookClosely(dice.nextInt(4));
+        }
+    }
+
+    private void lookClosely(int reel) {
+        switch (dice.nextInt(4)) {
+            case 0 -> describe(reel);
+            case 1 -> compareRanks(reel);
+            case 2 -> compareOffsets(reel);
+            default -> both(quarry::undo, model::undo);
         }
     }
 
     private void both(Checks.Call call, Checks.Call modelCall) {
-        Checks.due(Checks.outcome(modelCall), Checks.outcome(call));
+        if (calls < CALLS) {
+            calls++;
+            Checks.due(Checks.outcome(modelCall), Checks.outcome(call));
+        }
     }
 
     private void describe(int reel) {
@@ -66,7 +80,11 @@ public final class ModelTest {
             both(() -> quarry.isTangled(reel, n), () -> model.isTangled(reel, n));
             both(() -> quarry.colourAtRank(reel, n), () -> model.colourAtRank(reel, n));
         }
-        for (int offset = -1; offset <= model.reelLength(reel); offset++) {
+    }
+
+    private void compareOffsets(int reel) {
+        int step = 1 + model.reelLength(reel) / 50;
+        for (int offset = -1; offset <= model.reelLength(reel); offset += step) {
             int o = offset;
             both(() -> quarry.positionAt(reel, o), () -> model.positionAt(reel, o));
         }

@@ -316,7 +316,7 @@ final class PlainModel {
     int run() {
         String typed = text.toString();
         text.setLength(0);
-        if (!TEXT.matcher(typed).matches()) {
+        if (!isText(typed)) {
             error = errorIn(typed);
             throw new IllegalArgumentException();
         }
@@ -339,6 +339,10 @@ final class PlainModel {
             undoable.removeFirst();
         }
         return commands.length;
+    }
+
+    static boolean isText(String typed) {
+        return TEXT.matcher(typed).matches();
     }
 
     /** A beginning can go on if the pattern matches it or wanted more of it. */
