@@ -72,10 +72,8 @@ public final class CommandsTest extends Promises {
         due(1, full.type('a'));
     }
 
-    /** A lived object with this command text alone. */
     private static RibbonQuarry withText(String text) {
-        RibbonQuarry x = lived(FOUR);
-        Checks.outcome(x::run);
+        RibbonQuarry x = past(FOUR);
         typeAll(x, text);
         return x;
     }
@@ -123,23 +121,17 @@ public final class CommandsTest extends Promises {
         String[] starts = {"add 0 1a", "put 0@0 1a;drop 0@1", "tie 0@0=99;dye 0@0-58 h", "cut 0@0>1;join 1<2;swap 13",
             "flip 0@0-58;drop 0@0;cut 0@9>3;swap 03", "swap 01;swap 12;swap 20;swap 31;swap 02"};
         for (String start : starts) {
-            RibbonQuarry all = withNoText(stairs(1, 59), "", "2c");
+            RibbonQuarry all = past(stairs(1, 59), "", "2c");
             String before = Look.at(all);
             due(start.split(";").length, runAll(all, start));
             due(false, before.equals(Look.at(all)));
         }
         for (String start : starts) {
-            Look.Maker maker = () -> withNoText(stairs(1, 59), "", "2c");
+            Look.Maker maker = () -> past(stairs(1, 59), "", "2c");
             String none = Look.after(maker, y -> runsAndForgets(y, "drop 3@0"));
             due(none, Look.after(maker, y -> runsAndForgets(y, start + ";drop 9@0")));
             due(none, Look.after(maker, y -> runsAndForgets(y, start + ";add 0 0a")));
         }
-    }
-
-    private static RibbonQuarry withNoText(String... reels) {
-        RibbonQuarry x = lived(reels);
-        Checks.outcome(x::run);
-        return x;
     }
 
     /** Runs a text that fails, then one that always fails at its first command, and leaves a command begun. */
@@ -236,7 +228,7 @@ public final class CommandsTest extends Promises {
             dueReels(x, "1a2b");
         }
         due(1, x.undo());
-        Look.Maker maker = () -> withNoText(FOUR);
+        Look.Maker maker = () -> past(FOUR);
         String untouched = Look.after(maker, y -> runsNoText(y, "add 9x"));
         due(untouched, Look.after(maker, y -> runsNoText(y, "dye 0@0-0 h;cut 3@0>0;dye 9")));
         due(untouched, Look.after(maker, y -> runsNoText(y, "cut 0@0>1;drop 0@0;")));

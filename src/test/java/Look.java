@@ -32,7 +32,8 @@ final class Look {
 
     static String reel(RibbonQuarry x, int reel) {
         StringBuilder seen = new StringBuilder();
-        for (int position = 0; position < x.segmentCount(reel); position++) {
+        int count = x.segmentCount(reel);
+        for (int position = 0; position < count; position++) {
             seen.append(x.length(reel, position)).append((char) ('a' + x.colour(reel, position)));
         }
         return seen.toString();

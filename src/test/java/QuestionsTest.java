@@ -59,44 +59,14 @@ public final class QuestionsTest extends Promises {
         says("Returns the sum of the lengths of all segments before a position, found from the sums of parts of the"
                 + " reel.");
         dueSumsBefore(RibbonQuarry::lengthBefore);
-
-        says("reel: the reel, 0 to 3");
-        eachReelAnswers((y, reel) -> y.lengthBefore(reel, 1), 1, 2, 4, 70);
-
-        says("position: the position, from 0 to the number of segments");
-        eachReelAnswers((y, reel) -> y.lengthBefore(reel, 0), 0, 0, 0, 0);
-        eachReelAnswers((y, reel) -> y.lengthBefore(reel, reel + 1), 1, 5, 60, 97);
-        due(5940, with("99h".repeat(60)).lengthBefore(0, 60));
-
-        says("Returns the sum.");
-        due(0, new RibbonQuarry().lengthBefore(0, 0));
-        due(99, with("99h1a").lengthBefore(0, 1));
-
-        says("Throws IndexOutOfBoundsException if there is no such reel, or the position is negative or greater than"
-                + " the number of segments");
-        noBorder(RibbonQuarry::lengthBefore);
+        dueAtBorders(RibbonQuarry::lengthBefore);
     }
 
     private static void lengthBeforeByScan() {
         promise(16);
         says("Returns the same sum as lengthBefore(), added segment by segment.");
         dueSumsBefore(RibbonQuarry::lengthBeforeByScan);
-
-        says("reel: the reel, 0 to 3");
-        eachReelAnswers((y, reel) -> y.lengthBeforeByScan(reel, 1), 1, 2, 4, 70);
-
-        says("position: the position, from 0 to the number of segments");
-        eachReelAnswers((y, reel) -> y.lengthBeforeByScan(reel, 0), 0, 0, 0, 0);
-        eachReelAnswers((y, reel) -> y.lengthBeforeByScan(reel, reel + 1), 1, 5, 60, 97);
-        due(5940, with("99h".repeat(60)).lengthBeforeByScan(0, 60));
-
-        says("Returns the sum.");
-        due(0, new RibbonQuarry().lengthBeforeByScan(0, 0));
-        due(99, with("99h1a").lengthBeforeByScan(0, 1));
-
-        says("Throws IndexOutOfBoundsException if there is no such reel, or the position is negative or greater than"
-                + " the number of segments");
-        noBorder(RibbonQuarry::lengthBeforeByScan);
+        dueAtBorders(RibbonQuarry::lengthBeforeByScan);
     }
 
     private interface BorderUse {
@@ -136,8 +106,22 @@ public final class QuestionsTest extends Promises {
         due(sum(2, 4), call.of(changed, 3, 3));
     }
 
-    /** Refuses reels and positions for a call that takes the borders of a reel. */
-    private static void noBorder(BorderUse call) {
+    /** The rows that both promises have. */
+    private static void dueAtBorders(BorderUse call) {
+        says("reel: the reel, 0 to 3");
+        eachReelAnswers((x, reel) -> call.of(x, reel, 1), 1, 2, 4, 70);
+
+        says("position: the position, from 0 to the number of segments");
+        eachReelAnswers((x, reel) -> call.of(x, reel, 0), 0, 0, 0, 0);
+        eachReelAnswers((x, reel) -> call.of(x, reel, reel + 1), 1, 5, 60, 97);
+
+        says("Returns the sum.");
+        due(0, call.of(new RibbonQuarry(), 0, 0));
+        due(99, call.of(with("99h1a"), 0, 1));
+        due(5940, call.of(with("99h".repeat(60)), 0, 60));
+
+        says("Throws IndexOutOfBoundsException if there is no such reel, or the position is negative or greater than"
+                + " the number of segments");
         noReel((x, reel) -> call.of(x, reel, 0));
         for (int position : noBorders(5)) {
             index(() -> lived(FIVE), x -> call.of(x, 0, position));
@@ -328,34 +312,28 @@ public final class QuestionsTest extends Promises {
         promise(22);
         says("Returns the number of tangles of a reel, found from the tangles of parts of the reel.");
         dueTangles(RibbonQuarry::tangleCount);
-
-        says("reel: the reel, 0 to 3");
-        eachReelAnswers(ALIKE, RibbonQuarry::tangleCount, 0, 1, 2, 3);
-
-        says("Returns the number of tangles.");
-        due(0, new RibbonQuarry().tangleCount(0));
-        due(0, with("1a").tangleCount(0));
-        due(59, with(FULL).tangleCount(0));
-
-        says("Throws IndexOutOfBoundsException if there is no such reel");
-        noReel(RibbonQuarry::tangleCount);
+        dueTangleRows(RibbonQuarry::tangleCount);
     }
 
     private static void tangleCountByScan() {
         promise(23);
         says("Returns the same number as tangleCount(), counted pair by pair.");
         dueTangles(RibbonQuarry::tangleCountByScan);
+        dueTangleRows(RibbonQuarry::tangleCountByScan);
+    }
 
+    /** The rows that both promises have. */
+    private static void dueTangleRows(ReelUse call) {
         says("reel: the reel, 0 to 3");
-        eachReelAnswers(ALIKE, RibbonQuarry::tangleCountByScan, 0, 1, 2, 3);
+        eachReelAnswers(ALIKE, call, 0, 1, 2, 3);
 
         says("Returns the number of tangles.");
-        due(0, new RibbonQuarry().tangleCountByScan(0));
-        due(0, with("1a").tangleCountByScan(0));
-        due(59, with(FULL).tangleCountByScan(0));
+        due(0, call.of(new RibbonQuarry(), 0));
+        due(0, call.of(with("1a"), 0));
+        due(59, call.of(with(FULL), 0));
 
         says("Throws IndexOutOfBoundsException if there is no such reel");
-        noReel(RibbonQuarry::tangleCountByScan);
+        noReel(call);
     }
 
     /** A tangle at each place of a full reel, and after each kind of change. */
@@ -666,6 +644,14 @@ public final class QuestionsTest extends Promises {
         due(2, with("1a2b", "1a2b3c").commonBeginning(0, 1));
         due(2, with("1a2b", "1a2b3c").commonBeginning(1, 0));
         due(60, with(FULL, "", FULL).commonBeginning(2, 0));
+        // What stood behind the end of the shorter reel does not count.
+        RibbonQuarry shorter = with("1a2b3c", "1a2b3c");
+        shorter.remove(1, 2);
+        due(2, shorter.commonBeginning(0, 1));
+        due(2, shorter.commonBeginning(1, 0));
+        shorter.cut(1, 1, 2);
+        due(1, shorter.commonBeginning(0, 1));
+        due(0, shorter.commonBeginning(0, 2));
 
         says("Throws IndexOutOfBoundsException if there is no such reel, for either");
         noReel((y, reel) -> y.commonBeginning(reel, 0));

@@ -25,6 +25,7 @@ public final class RulesTest {
         String source = Files.readString(Path.of(args[0]));
         String document = Files.readString(Path.of(args[1]));
         faceIsThatOfTheDocument(document);
+        callsStandUnderTheirHeadings(document, source);
         nothingElseIsVisible();
         staticFieldsAreConstants();
         sourceKeepsToTheLanguage(source);
@@ -61,6 +62,22 @@ public final class RulesTest {
         got.removeAll(common);
         Checks.due(new TreeSet<String>(), want);
         Checks.due(new TreeSet<String>(), got);
+    }
+
+    private static void callsStandUnderTheirHeadings(String document, String source) {
+        Checks.begin("what the interface says ahead of calls");
+        Matcher headings = Pattern.compile("Ahead of the calls (.*) the interface says: (---- .*)\\.").matcher(document);
+        int found = 0;
+        while (headings.find()) {
+            found++;
+            String[] parts = source.split("\n    // " + Pattern.quote(headings.group(2)) + "\n", -1);
+            Checks.due(2, parts.length);
+            String under = parts[parts.length - 1].split("// ---- ")[0];
+            for (String name : headings.group(1).replaceAll("[`,]", "").split(" ")) {
+                Checks.due(name + " 1", name + " " + count(under, "\\bpublic \\w+ " + name + "\\("));
+            }
+        }
+        Checks.due(8, found);
     }
 
     private static String parameters(Class<?>[] types) {
@@ -169,7 +186,7 @@ public final class RulesTest {
 
     private static long dearCalls(RibbonQuarry quarry) {
         long sum = 0;
-        for (int round = 0; round < 30; round++) {
+        for (int round = 0; round < 7; round++) {
             sum += quarry.exchange(0, 1) + quarry.flip(0, 0, 59) + quarry.dye(1, 0, 59, 3) + quarry.undo();
             sum += quarry.describeReel(0) + quarry.segmentAtRank(2, 59) + quarry.colourAtRank(3, 7);
             sum += quarry.type('s') + quarry.type('w') + quarry.type('a') + quarry.type('p') + quarry.type(' ');

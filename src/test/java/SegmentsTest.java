@@ -489,8 +489,9 @@ public final class SegmentsTest extends Promises {
         RibbonQuarry full = with(stairs(1, 60), "", "", stairs(40, 99));
         full.exchange(3, 0);
         dueReels(full, stairs(40, 99), "", "", stairs(1, 60));
-        full.exchange(3, 1);
-        dueReels(full, stairs(40, 99), stairs(1, 60));
+        RibbonQuarry half = with(stairs(1, 60));
+        half.exchange(3, 0);
+        dueReels(half, "", "", "", stairs(1, 60));
 
         says("reel: the reel, 0 to 3");
         for (int reel = 0; reel < 4; reel++) {

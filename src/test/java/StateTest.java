@@ -294,6 +294,15 @@ public final class StateTest extends Promises {
         due(1, again.undo());
         due(0, again.undo());
         dueReels(again, "");
+        // An undone change is none of the latest 8 any more: only a ninth that stands pushes out the oldest.
+        RibbonQuarry full = with(stairs(1, 9));
+        due(7, full.undo());
+        due(6, full.undo());
+        full.append(0, 50, 2);
+        for (int left = 6; left >= 0; left--) {
+            due(left, full.undo());
+        }
+        dueReels(full, stairs(1, 1));
     }
 
     private static void noUndo() {
@@ -328,17 +337,21 @@ public final class StateTest extends Promises {
     private static void save() {
         promise(44);
         says("Saves everything that changes can change as the snapshot, replacing an earlier snapshot.");
-        RibbonQuarry x = with("1a2b", "", stairs(1, 60));
-        x.cut(0, 1, 1);
-        x.splice(0, 1);
-        x.cut(0, 0, 1);
-        x.exchange(0, 1);
-        String saved = Look.at(x);
-        x.save();
-        dueBack(saved, x, y -> runAll(y, "drop 0@0;flip 2@0-59;cut 0@0>1;join 3<2"));
-        dueBack(saved, x, y -> y.splice(3, 2));
-        dueBack(saved, x, y -> y.dye(2, 0, 59, 7));
-        dueBack(saved, x, y -> y.retie(2, 30, 99));
+        Look.Use[] changes = {x -> runAll(x, "drop 0@0;flip 2@0-59;cut 0@0>1;join 3<2"), x -> x.splice(3, 2),
+            x -> x.dye(2, 0, 59, 7), x -> x.retie(2, 30, 99), x -> x.cut(2, 60, 1), x -> x.splice(1, 3)};
+        for (Look.Use change : changes) {
+            RibbonQuarry x = with("1a2b", "", stairs(1, 60));
+            x.cut(0, 1, 1);
+            x.splice(0, 1);
+            x.cut(0, 0, 1);
+            x.exchange(0, 1);
+            String saved = Look.at(x);
+            x.save();
+            change.of(x);
+            due(false, saved.equals(Look.at(x)));
+            x.restore();
+            due(saved, Look.at(x));
+        }
         RibbonQuarry twice = with("1a");
         twice.save();
         twice.append(0, 2, 1);
@@ -364,14 +377,6 @@ public final class StateTest extends Promises {
             fill(y, reel, FIVE);
             due(5, y.save());
         }
-    }
-
-    /** Whatever the change was, the snapshot must lead back to what was saved. */
-    private static void dueBack(String saved, RibbonQuarry x, Look.Use change) {
-        change.of(x);
-        due(false, saved.equals(Look.at(x)));
-        x.restore();
-        due(saved, Look.at(x));
     }
 
     private static void restore() {

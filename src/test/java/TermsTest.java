@@ -1,4 +1,5 @@
 import java.io.IOException;
+import java.util.Arrays;
 
 /** The terms "Reels", "Ranges", "Tangles", "Changes" and "Exceptions"; "Commands" has a test for itself. */
 public final class TermsTest extends Promises {
@@ -18,7 +19,7 @@ public final class TermsTest extends Promises {
 
     private static final String[] WITH_ROOM = {"1a", "2b3b", "", "70g8h9g10h"};
 
-    /** Successful calls of all that makes changes, on WITH_ROOM; each makes a difference. */
+    /** Successful calls of all that makes changes, run last, on WITH_ROOM; each makes a difference. */
     private static final Look.Use[] CHANGES = {x -> x.append(0, 5, 5), x -> x.insert(1, 1, 5, 5), x -> x.remove(3, 0),
         x -> x.retie(1, 1, 99), x -> x.cut(3, 1, 2), x -> x.splice(0, 1), x -> x.exchange(0, 3),
         x -> x.flip(3, 0, 1), x -> x.dye(3, 0, 2, 0), x -> runAll(x, "drop 3@0;join 0<1;cut 3@1>1;swap 02")};
@@ -156,6 +157,7 @@ public final class TermsTest extends Promises {
     private static void changes() {
         term("Changes");
         whatIsAChange();
+        changesLeaveTheRest();
         changeWithoutDifference();
         runIsOneChange();
         latestEight();
@@ -185,6 +187,22 @@ public final class TermsTest extends Promises {
             other.of(x);
             due(0, x.undo());
             dueReels(x, WITH_ROOM);
+        }
+    }
+
+    /** The line, the error position, the failed command and, but for run, the command text. */
+    private static void changesLeaveTheRest() {
+        for (Look.Use change : CHANGES) {
+            RibbonQuarry x = past(WITH_ROOM);
+            change.of(x);
+            due("9g", Look.line(x));
+            due(5, x.errorPosition());
+            due(1, x.failedCommand());
+        }
+        for (Look.Use change : Arrays.copyOf(CHANGES, CHANGES.length - 1)) {
+            RibbonQuarry x = lived(WITH_ROOM);
+            change.of(x);
+            due(8, x.type('0'));
         }
     }
 
