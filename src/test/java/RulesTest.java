@@ -8,7 +8,9 @@ import java.nio.file.Files;
 import java.nio.file.Path;
 import java.util.ArrayList;
 import java.util.Arrays;
+import java.util.HashMap;
 import java.util.List;
+import java.util.Map;
 import java.util.TreeSet;
 import java.util.regex.Matcher;
 import java.util.regex.Pattern;
@@ -30,6 +32,7 @@ public final class RulesTest {
         staticFieldsAreConstants();
         sourceKeepsToTheLanguage(source);
         methodsAreShort(source);
+        callsGoNoDeeperThanEight(source);
         callsMakeNothing();
         objectsAreSmall();
         Checks.end();
@@ -166,6 +169,37 @@ public final class RulesTest {
             length = isClass || begins ? 0 : length + 1;
             Checks.due(true, length <= 60 || !line.matches("( {4}| {8})}"));
         }
+    }
+
+    /** Methods of the same name count as one, so the depth found is at least the true one. */
+    private static void callsGoNoDeeperThanEight(String source) {
+        Checks.begin("rule 11, how deep calls go");
+        Map<String, String> bodies = new HashMap<>();
+        Matcher methods = Pattern.compile("(?ms)^( {4}| {8})(?:public|private) [^=;{]*?(\\w+)\\([^{;]*\\{\n(.*?)^\\1}")
+                .matcher(source);
+        while (methods.find()) {
+            bodies.merge(methods.group(2), methods.group(3), String::concat);
+        }
+        Checks.due(true, bodies.size() > 100);
+        for (String method : bodies.keySet()) {
+            String chain = longestChain(method, bodies, 1);
+            int depth = chain.split(" ").length;
+            Checks.due(chain + " true", chain + " " + (depth <= 8));
+        }
+    }
+
+    /** A method that calls itself would go on to the twentieth call. */
+    private static String longestChain(String method, Map<String, String> bodies, int depth) {
+        String longest = "";
+        Matcher calls = Pattern.compile("(\\w+)\\(").matcher(depth < 20 ? bodies.get(method) : "");
+        TreeSet<String> called = new TreeSet<>();
+        while (calls.find()) {
+            if (bodies.containsKey(calls.group(1)) && called.add(calls.group(1))) {
+                String chain = " " + longestChain(calls.group(1), bodies, depth + 1);
+                longest = chain.split(" ").length > longest.split(" ").length ? chain : longest;
+            }
+        }
+        return method + longest;
     }
 
     // ---- the room for objects
